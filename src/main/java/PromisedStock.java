@@ -45,6 +45,9 @@ public final class PromisedStock {
     private final Ledger ledger = new Ledger();
     private final Telling telling = new Telling(tokens, draft);
     private final Question question = new Question(tokens, net);
+    private final int[] evens = new int[MOST_EVEN + 1];
+    private int evensKnown = 0;
+    private int evensSettled = 0;
     private boolean somethingKept = false;
     private int faultPlace = NONE;
 
@@ -311,30 +314,32 @@ public final class PromisedStock {
         checkStage(stage);
         checkDay(day);
         checkWhat(what, 4);
-        ledger.fill(net, stage);
+        ledger.open(net, stage);
         switch (what) {
             case 0:
                 return net.demands[stage * CALENDAR + day];
             case 1:
                 return ledger.calledOn(day, day);
             case 2:
-                return net.netOf(stage) < 0 ? NO_NUMBER : ledger.onHand(net, stage, day);
+                return ledger.netDays < 0 ? NO_NUMBER : ledger.onHand(day);
             default:
-                return ledger.longestBreak(net, stage, day);
+                ledger.openBounds(net, stage);
+                return ledger.longestBreak(day);
         }
     }
 
     public int days(int stage, int what) throws NoSuchElementException {
         checkStage(stage);
         checkWhat(what, 3);
-        ledger.fill(net, stage);
+        ledger.open(net, stage);
         if (what == 1) {
-            return ledger.firstBreak(net, stage);
+            ledger.openBounds(net, stage);
+            return ledger.firstBreak();
         }
-        if (net.netOf(stage) < 0) {
+        if (ledger.netDays < 0) {
             return what == 0 ? NONE : NO_NUMBER;
         }
-        return what == 0 ? ledger.shortDays(net, stage) : ledger.leastOnHand(net, stage);
+        return what == 0 ? ledger.shortDays() : ledger.leastOnHand();
     }
 
     public int ask(int n) throws IllegalArgumentException {
@@ -444,6 +449,7 @@ public final class PromisedStock {
         }
         int was = net.z;
         net.z = v;
+        net.settle();
         acts.note(CHANGED_Z, 0, was);
         return was;
     }
@@ -489,12 +495,21 @@ public final class PromisedStock {
         return best.leastPrice(draft);
     }
 
+    /** Found once for as long as the NETWORK stays: the FRONTIER asks for all of them again and again. */
     private int evenPrice(int p) {
-        draft.becomeNetwork(net);
-        for (int s = 0; s < draft.count; s++) {
-            draft.tell(s, PROMISE, draft.customers[s] == 0 ? p : NONE);
+        if (evensSettled != net.settled) {
+            evensSettled = net.settled;
+            evensKnown = 0;
         }
-        return best.leastPrice(draft);
+        if (!Net.has(evensKnown, p)) {
+            draft.becomeNetwork(net);
+            for (int s = 0; s < draft.count; s++) {
+                draft.tell(s, PROMISE, draft.customers[s] == 0 ? p : NONE);
+            }
+            evens[p] = best.leastPrice(draft);
+            evensKnown |= 1 << p;
+        }
+        return evens[p];
     }
 
     /** A NETWORK with its PINS, the PLAN at hand and the DEMANDS. */
@@ -512,6 +527,8 @@ public final class PromisedStock {
         final int[] longest = new int[STAGES];
         int count = 0;
         int z = FIRST_Z;
+        // Another number after each change of what BEST hangs on.
+        int settled = 0;
 
         int told(int stage, int what) {
             return told[stage * TOLD + what];
@@ -621,6 +638,7 @@ public final class PromisedStock {
         }
 
         void settle() {
+            settled++;
             sortSuppliersAhead();
             for (int i = 0; i < count; i++) {
                 settleLongest(order[i]);
@@ -666,7 +684,12 @@ public final class PromisedStock {
         }
 
         int rootBy(int stage, int n) {
-            return root((long) z * z * width[stage] * n);
+            return rootFrom(0, stage, n);
+        }
+
+        /** ROOT, that of fewer days being known: a row of them is found in few steps. */
+        int rootFrom(int fewer, int stage, int n) {
+            return root((long) z * z * width[stage] * n, fewer);
         }
 
         int boundBy(int stage, int n) {
@@ -781,20 +804,24 @@ public final class PromisedStock {
             return (bits >> s & 1) != 0;
         }
 
-        /** The least x for which (100 x) times (100 x) is no less than square. */
-        static int root(long square) {
-            // Far above the root of the greatest Z, WIDTH and number of days.
-            int high = 65535;
-            int low = 0;
-            for (int i = 0; i < 20 && low < high; i++) {
-                int x = (low + high) / 2;
+        /** The least x of low on for which (100 x) times (100 x) is no less than square. */
+        static int root(long square, int low) {
+            int from = low;
+            int high = low;
+            // Steps of 1, 2, 4, ..: 20 of them lead far above the root of the greatest Z, WIDTH and number of days.
+            for (int step = 0; step < 20 && 10000L * high * high < square; step++) {
+                from = high + 1;
+                high += 1 << step;
+            }
+            for (int i = 0; i < 20 && from < high; i++) {
+                int x = (from + high) / 2;
                 if (10000L * x * x >= square) {
                     high = x;
                 } else {
-                    low = x + 1;
+                    from = x + 1;
                 }
             }
-            return low;
+            return from;
         }
     }
 
@@ -1310,12 +1337,19 @@ public final class PromisedStock {
         }
     }
 
-    /** What is CALLED of one STAGE through the days, and what comes of it. */
+    /** What is CALLED of one STAGE through the days, and what comes of it by the PLAN at hand. */
     private static final class Ledger {
         // What is CALLED ahead of each day: a row of days is then one subtraction.
         final int[] ahead = new int[CALENDAR + 1];
+        final int[] bounds = new int[CALENDAR + 1];
+        int netDays = 0;
+        int base = 0;
+        int time = 0;
 
-        void fill(Net net, int stage) {
+        void open(Net net, int stage) {
+            netDays = net.netOf(stage);
+            base = netDays < 0 ? 0 : net.boundBy(stage, netDays);
+            time = net.time[stage];
             int below = net.allBelow(stage);
             for (int day = 0; day < CALENDAR; day++) {
                 int called = 0;
@@ -1326,47 +1360,54 @@ public final class PromisedStock {
             }
         }
 
+        void openBounds(Net net, int stage) {
+            int root = 0;
+            for (int n = 0; n < bounds.length; n++) {
+                root = net.rootFrom(root, stage, n);
+                bounds[n] = n * net.flow[stage] + root;
+            }
+        }
+
         /** What is CALLED from one day to another one, both with it (days below 0: 0). */
         int calledOn(int from, int to) {
             return ahead[inside(to + 1)] - ahead[inside(from)];
         }
 
-        int onHand(Net net, int stage, int day) {
-            int days = net.netOf(stage);
-            int last = day - net.time[stage];
-            return net.boundBy(stage, days) - calledOn(last - days + 1, last);
+        int onHand(int day) {
+            int last = day - time;
+            return base - calledOn(last - netDays + 1, last);
         }
 
-        int longestBreak(Net net, int stage, int day) {
+        int longestBreak(int day) {
             for (int n = day + 1; n > 0; n--) {
-                if (calledOn(day - n + 1, day) > net.boundBy(stage, n)) {
+                if (calledOn(day - n + 1, day) > bounds[n]) {
                     return n;
                 }
             }
             return 0;
         }
 
-        int firstBreak(Net net, int stage) {
+        int firstBreak() {
             for (int day = 0; day < CALENDAR; day++) {
-                if (longestBreak(net, stage, day) > 0) {
+                if (longestBreak(day) > 0) {
                     return day;
                 }
             }
             return NONE;
         }
 
-        int shortDays(Net net, int stage) {
+        int shortDays() {
             int together = 0;
             for (int day = 0; day < CALENDAR; day++) {
-                together += onHand(net, stage, day) < 0 ? 1 : 0;
+                together += onHand(day) < 0 ? 1 : 0;
             }
             return together;
         }
 
-        int leastOnHand(Net net, int stage) {
-            int least = onHand(net, stage, 0);
+        int leastOnHand() {
+            int least = onHand(0);
             for (int day = 1; day < CALENDAR; day++) {
-                least = Math.min(least, onHand(net, stage, day));
+                least = Math.min(least, onHand(day));
             }
             return least;
         }
@@ -1405,10 +1446,6 @@ public final class PromisedStock {
                 high[i] = newHigh;
                 low[i] = newLow;
             }
-        }
-
-        boolean isNever(int i) {
-            return high[i] >= NEVER;
         }
     }
 
@@ -1494,8 +1531,10 @@ public final class PromisedStock {
         }
 
         private void weigh(Net net, int stage) {
+            int root = 0;
             for (int n = 0; n <= net.longest[stage]; n++) {
-                prices[n] = (long) net.told(stage, COST) * net.rootBy(stage, n) << Row.PRICE_SHIFT;
+                root = net.rootFrom(root, stage, n);
+                prices[n] = (long) net.told(stage, COST) * root << Row.PRICE_SHIFT;
             }
             weighSuppliers(net, stage);
             weighCustomers(net, stage);
@@ -1557,14 +1596,27 @@ public final class PromisedStock {
             int latest = net.longest[stage] - days;
             for (int t = 0; t <= net.longest[stage]; t++) {
                 row.put(t, Row.NEVER, 0);
-                if (own.isNever(t)) {
-                    continue;
+                if (own.high[t] < Row.NEVER) {
+                    pickWait(days - t, latest);
+                    row.put(t, picked.high[0] + own.high[t], picked.low[0] + own.low[t]);
                 }
-                for (int w = Math.max(0, t - days); w <= latest; w++) {
-                    row.lower(t, justThen.high[w] + prices[w + days - t], justThen.low[w]);
-                }
-                row.put(t, row.high[t] + own.high[t], row.low[t] + own.low[t]);
             }
+        }
+
+        /** The cheapest WAIT, if NET is so many days more (below 0: less). */
+        private void pickWait(int more, int latest) {
+            long[] highs = justThen.high;
+            long[] lows = justThen.low;
+            long leastHigh = Row.NEVER;
+            long leastLow = 0;
+            for (int w = Math.max(0, -more); w <= latest; w++) {
+                long now = highs[w] + prices[w + more];
+                if (now < leastHigh || now == leastHigh && lows[w] < leastLow) {
+                    leastHigh = now;
+                    leastLow = lows[w];
+                }
+            }
+            picked.put(0, leastHigh, leastLow);
         }
 
         private void tellBySupplier(Net net, int stage) {
@@ -1591,12 +1643,18 @@ public final class PromisedStock {
 
         /** The cheapest TIME, if WAIT and DAYS together are so many days. */
         private void pickTime(int together) {
-            picked.put(0, Row.NEVER, 0);
+            long[] highs = own.high;
+            long[] lows = own.low;
+            long leastHigh = Row.NEVER;
+            long leastLow = 0;
             for (int t = 0; t <= together; t++) {
-                if (!own.isNever(t)) {
-                    picked.lower(0, own.high[t] + prices[together - t], own.low[t]);
+                long now = highs[t] + prices[together - t];
+                if (now < leastHigh || now == leastHigh && lows[t] < leastLow) {
+                    leastHigh = now;
+                    leastLow = lows[t];
                 }
             }
+            picked.put(0, leastHigh, leastLow);
         }
 
         private void addLeast(Row row, int last) {
