@@ -1,0 +1,91 @@
+import java.util.ArrayList;
+import java.util.Collections;
+import java.util.List;
+import java.util.Random;
+
+/**
+ * BEST of NETWORKS that are too great for trying all PLANS: its PRICE must not hang on how STAGES are numbered, PINS
+ * at its own TIMES must leave it as it is, and no lesser TIME may do as well.
+ */
+public final class BestTest {
+    private static final Checks CHECKS = new Checks();
+
+    private final Random random;
+    private final int stages;
+    private final List<int[]> told = new ArrayList<>();
+    private final List<int[]> supplies = new ArrayList<>();
+
+    private BestTest(long seed) {
+        random = new Random(seed);
+        stages = 6 + random.nextInt(7);
+        boolean cheap = random.nextBoolean();
+        int shape = random.nextInt(3);
+        for (int s = 0; s < stages; s++) {
+            told.add(new int[] {random.nextInt(10), random.nextInt(cheap ? 4 : 1000), maybe(10, 0), random.nextInt(9),
+                random.nextInt(cheap ? 5 : 10000), maybe(21, -1), random.nextInt(6) == 0 ? random.nextInt(12) : -1});
+            if (s > 0 && random.nextInt(12) > 0) {
+                int other = shape == 0 ? s - 1 : shape == 1 ? random.nextInt(s) : Math.max(0, s - 1 - random.nextInt(3));
+                supplies.add(random.nextInt(shape == 0 ? 5 : 2) == 0 ? new int[] {s, other} : new int[] {other, s});
+            }
+        }
+    }
+
+    private int maybe(int n, int none) {
+        return random.nextInt(3) == 0 ? random.nextInt(n) : none;
+    }
+
+    public static void main(String[] args) {
+        for (int seed = 0; seed < 400; seed++) {
+            CHECKS.part("network of seed " + seed);
+            new BestTest(seed).check();
+        }
+        CHECKS.end();
+    }
+
+    private PromisedStock made(List<Integer> number) {
+        StringBuilder text = new StringBuilder();
+        for (int s = 0; s < stages; s++) {
+            text.append("stage ").append((char) ('a' + s)).append(" 0 0;");
+        }
+        PromisedStock x = Checks.of(text.toString());
+        for (int s = 0; s < stages; s++) {
+            for (int what = 0; what < 6; what++) {
+                x.change(number.get(s), what, told.get(s)[what]);
+            }
+            x.pin(number.get(s), told.get(s)[6]);
+        }
+        for (int[] pair : supplies) {
+            x.supply(number.get(pair[0]), number.get(pair[1]));
+        }
+        return x;
+    }
+
+    private void check() {
+        List<Integer> number = new ArrayList<>();
+        for (int s = 0; s < stages; s++) {
+            number.add(s);
+        }
+        PromisedStock x = made(number);
+        int least = x.least();
+        for (int i = 0; i < 4; i++) {
+            Collections.shuffle(number, random);
+            CHECKS.is("least, numbered " + number, least, made(number).least());
+        }
+        CHECKS.is("take", least, x.take(2));
+        if (least == PromisedStock.NONE) {
+            return;
+        }
+        for (int s = 0; s < stages; s++) {
+            int time = x.planned(s, 0);
+            for (int t = 0; t < 118 && told.get(s)[6] == PromisedStock.NONE; t++) {
+                int price = x.pinned(s, t);
+                boolean due = t == time ? price == least : price == PromisedStock.NONE || price >= least;
+                boolean less = t < time && price == least;
+                CHECKS.is("stage " + s + " pinned at " + t + ": " + price + ", least " + least, true, due && !less);
+            }
+            // From here on only PLANS of the same lesser STAGES are looked at.
+            x.pin(s, time);
+        }
+        CHECKS.is("all pinned", least, x.least());
+    }
+}
