@@ -687,9 +687,25 @@ public final class PromisedStock {
             return rootFrom(0, stage, n);
         }
 
-        /** ROOT, that of fewer days being known: a row of them is found in few steps. */
+        /** ROOT, that of fewer days being known (or 0): a row of them is found in few steps. */
         int rootFrom(int fewer, int stage, int n) {
-            return root((long) z * z * width[stage] * n, fewer);
+            long square = (long) z * z * width[stage] * n;
+            int low = fewer;
+            int high = fewer;
+            // Steps of 1, 2, 4, ..: 20 of them lead far above the root of the greatest Z, WIDTH and number of days.
+            for (int step = 0; step < 20 && 10000L * high * high < square; step++) {
+                low = high + 1;
+                high += 1 << step;
+            }
+            for (int i = 0; i < 20 && low < high; i++) {
+                int x = (low + high) / 2;
+                if (10000L * x * x >= square) {
+                    high = x;
+                } else {
+                    low = x + 1;
+                }
+            }
+            return low;
         }
 
         int boundBy(int stage, int n) {
@@ -802,26 +818,6 @@ public final class PromisedStock {
 
         static boolean has(int bits, int s) {
             return (bits >> s & 1) != 0;
-        }
-
-        /** The least x of low on for which (100 x) times (100 x) is no less than square. */
-        static int root(long square, int low) {
-            int from = low;
-            int high = low;
-            // Steps of 1, 2, 4, ..: 20 of them lead far above the root of the greatest Z, WIDTH and number of days.
-            for (int step = 0; step < 20 && 10000L * high * high < square; step++) {
-                from = high + 1;
-                high += 1 << step;
-            }
-            for (int i = 0; i < 20 && from < high; i++) {
-                int x = (from + high) / 2;
-                if (10000L * x * x >= square) {
-                    high = x;
-                } else {
-                    from = x + 1;
-                }
-            }
-            return from;
         }
     }
 
