@@ -1170,7 +1170,17 @@ public final class PromisedStock {
                     return refuse(3);
                 }
                 tokens.advance();
-                return not ? readFact(open + 1) && mark(NOT) : readTest(open + 1) && close('}');
+                if (not) {
+                    return readFact(open + 1) && mark(NOT);
+                }
+                if (!readTest(open + 1)) {
+                    return false;
+                }
+                if (!tokens.isSign('}')) {
+                    return refuse(1);
+                }
+                tokens.advance();
+                return true;
             }
             if (!readSum(open)) {
                 return false;
@@ -1214,27 +1224,26 @@ public final class PromisedStock {
                     return refuse(3);
                 }
                 tokens.advance();
-                return readSum(open + 1) && close(')');
+                if (!readSum(open + 1)) {
+                    return false;
+                }
+                if (!tokens.isSign(')')) {
+                    return refuse(1);
+                }
+            } else if (!markPart()) {
+                return false;
             }
-            boolean number = tokens.kind == Tokens.NUMBER;
-            int value = number ? tokens.number() : tokens.among(VALUES);
-            if (value == NONE) {
-                return refuse(1);
-            }
-            if (number && value > MOST_NUMBER) {
-                return refuse(2);
-            }
-            mark(number ? FIGURES + value : value);
             tokens.advance();
             return true;
         }
 
-        private boolean close(char sign) {
-            if (!tokens.isSign(sign)) {
-                return refuse(1);
+        private boolean markPart() {
+            if (tokens.kind == Tokens.NUMBER) {
+                int number = tokens.number();
+                return number <= MOST_NUMBER ? mark(FIGURES + number) : refuse(2);
             }
-            tokens.advance();
-            return true;
+            int value = tokens.among(VALUES);
+            return value != NONE ? mark(value) : refuse(1);
         }
 
         private boolean mark(int mark) {
