@@ -256,7 +256,7 @@ public final class AgainstSlowModelTest {
             case 30: if (upTo(2) == 0) call("image"); return;
             case 31: if (upTo(4) == 0) call("back"); return;
             case 32: if (upTo(4) == 0) call("feed", 0, 1, 2, 3, random.nextInt()); return;
-            case 33: if (upTo(4) == 0) call("take", near(0, 1)); return;
+            case 33: if (upTo(4) == 0) call("take", upTo(3) == 0 ? near(4, 9) : 0); return;
             default: if (slow.net().canTryAll()) byBest(how - 34);
         }
     }
