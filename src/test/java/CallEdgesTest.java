@@ -386,6 +386,14 @@ public final class CallEdgesTest {
             is("letter", 0, x.letter(3, k) + x.letter(4, k));
         }
         is("acts", 8, x.count(5));
+        PromisedStock older = Checks.of("stage a 1 1;stage qwerty 1 1;stage asdfgh 1 1;");
+        Checks.tell(older, "stage a 1 1;");
+        for (int s = 1; s < 12; s++) {
+            is("behind a NETWORK with fewer STAGES", s, older.add(0, true, 1, 1));
+            for (int k = 0; k < 6; k++) {
+                is("letter", 0, older.letter(s, k));
+            }
+        }
     }
 
     private static void addWhenFull() {
@@ -632,6 +640,10 @@ public final class CallEdgesTest {
         x.pin(0, 2);
         is("after another PIN", NONE, x.even(1));
         is("after another PIN", 0, x.even(2));
+        x.undo();
+        is("after undo", 50, x.even(1));
+        x.change(0, 6, 200);
+        is("after another Z", 100, x.even(1));
         x.undo();
         is("after undo", 50, x.even(1));
         x.image();

@@ -20,12 +20,14 @@ public final class DayEdgesTest {
         onHandOfNoNet();
         onHandOfManyDays();
         shortDays();
+        leastOnHand();
         eachIsAnAct();
         refusedIsNoAct();
         othersAreNoActs();
         latestTwenty();
         oldestOfEachKind();
         oneByOne();
+        undoneIsAsItWas();
         ringOfActs();
         planAndDemandsStay();
         stageThatIsGone();
@@ -265,6 +267,19 @@ public final class DayEdgesTest {
         is("the least", 10 - 2 * 999, x.days(0, 2));
     }
 
+    private static void leastOnHand() {
+        CHECKS.part("the least that is ON HAND on days 0 to 39");
+        for (int day = 0; day < 40; day++) {
+            PromisedStock x = Checks.of("stage a 1 1 demand 5 0;z 0;");
+            x.demand(0, day, 7);
+            is("on day " + day + " alone", -2, x.days(0, 2));
+            is("short on day " + day + " alone", 1, x.days(0, 0));
+            x.demand(0, day, 4);
+            is("on day " + day + " alone", 1, x.days(0, 2));
+            is("not short", 0, x.days(0, 0));
+        }
+    }
+
     private static PromisedStock two() {
         return Checks.of("stage a 2 1 outer 1 demand 3 4 promise 5;stage b 1 1;z 7;");
     }
@@ -426,6 +441,26 @@ public final class DayEdgesTest {
         is("no ACTS in a new NETWORK", NONE, x.undo());
     }
 
+    private static void undoneIsAsItWas() {
+        CHECKS.part("can be UNDONE: all is as it was");
+        Twins.Doing[] acts = {x -> x.add(1, true, 2, 3), x -> x.add(1, false, 2, 3), x -> x.supply(3, 0), x -> x.supply(0, 3),
+            x -> x.change(1, 0, 9), x -> x.change(1, 1, 9), x -> x.change(1, 2, 9), x -> x.change(1, 3, 9),
+            x -> x.change(1, 4, 9), x -> x.change(1, 5, 9), x -> x.change(1, 5, NONE), x -> x.change(1, 6, 9),
+            x -> x.pin(1, 9), x -> x.pin(1, NONE), x -> x.pin(2, 0)};
+        for (int i = 0; i < acts.length; i++) {
+            PromisedStock x = Checks.of("stage a 2 1 outer 1 demand 3 4 promise 5;stage b 1 2 outer 2 demand 4 5 promise 6;"
+                + "stage c 1 1 demand 1 1;stage qwerty 4 4 outer 4 demand 4 4;from a b;from c b;z 7;");
+            x.pin(1, 3);
+            x.promise(0, 1);
+            x.demand(2, 7, 7);
+            String was = Twins.seen(x, true);
+            acts[i].on(x);
+            is("act " + i + " is seen", false, was.equals(Twins.seen(x, true)));
+            is("act " + i + " undone", 1, x.undo());
+            is("act " + i + ": all", was, Twins.seen(x, true));
+        }
+    }
+
     private static void ringOfActs() {
         CHECKS.part("the latest 20, after some were UNDONE");
         PromisedStock x = two();
@@ -515,6 +550,9 @@ public final class DayEdgesTest {
             int[] due = {4, 5, 0, 0, 0, NONE, NONE};
             for (int what = 0; what < 7; what++) {
                 is("told " + what, due[what], x.stage(s, what));
+            }
+            for (int k = 0; k < 6; k++) {
+                is("letter " + k, 0, x.letter(s, k));
             }
             is("suppliers", (way & 2) == 0 ? 0 : 2, x.stage(s, 10));
             is("customers", (way & 2) == 0 ? 2 : 0, x.stage(s, 11));

@@ -35,6 +35,7 @@ public final class FaceTest {
 
     public static void main(String[] args) {
         face();
+        inside();
         room();
         CHECKS.end();
     }
@@ -71,6 +72,36 @@ public final class FaceTest {
             CHECKS.is(inside.getSimpleName() + " is static", true, Modifier.isStatic(inside.getModifiers()));
         }
         CHECKS.is("final", true, Modifier.isFinal(PromisedStock.class.getModifiers()));
+    }
+
+    /** Rules 1, 2, 5 and 11 of LANGUAGE.md, as far as they can be seen from outside. */
+    private static void inside() {
+        CHECKS.part("inside");
+        List<String> names = new ArrayList<>();
+        for (String method : FACE) {
+            names.add(method.substring(method.indexOf(' ') + 1, method.indexOf('(')));
+        }
+        List<Class<?>> all = new ArrayList<>(Arrays.asList(PromisedStock.class.getDeclaredClasses()));
+        CHECKS.is("classes inside: at most eleven", true, all.size() <= 11);
+        for (Class<?> inside : all) {
+            CHECKS.is(inside.getSimpleName() + " has no class inside", 0, inside.getDeclaredClasses().length);
+            for (Method method : inside.getDeclaredMethods()) {
+                CHECKS.is(method.getName() + " is no name of the face", false, names.contains(method.getName()));
+            }
+        }
+        all.add(PromisedStock.class);
+        for (Class<?> one : all) {
+            int fields = 0;
+            for (Field field : one.getDeclaredFields()) {
+                boolean shared = Modifier.isStatic(field.getModifiers());
+                fields += shared ? 0 : 1;
+                CHECKS.is(field.getName() + " is final, if static", true, !shared || Modifier.isFinal(field.getModifiers()));
+            }
+            CHECKS.is(one.getSimpleName() + " has at most twenty fields: " + fields, true, fields <= 20);
+            for (Method method : one.getDeclaredMethods()) {
+                CHECKS.is(method.getName() + ": at most seven parameters", true, method.getParameterCount() <= 7);
+            }
+        }
     }
 
     private static String told(Method method) {

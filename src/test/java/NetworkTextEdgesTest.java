@@ -157,6 +157,14 @@ public final class NetworkTextEdgesTest {
         bad(1, 399, text.substring(0, 399));
         bad(1, 399, text.substring(0, 399) + "x");
         bad(1, 400, text.substring(1, 399) + "  ");
+        for (String word : new String[] {"s", "stag", "stage", "f", "fro", "from", "z"}) {
+            boolean whole = word.equals("stage") || word.equals("from") || word.equals("z");
+            bad(1, whole ? 400 : 400 - word.length(), times(400 - word.length(), " ") + word);
+        }
+        for (String word : new String[] {"o", "oute", "outer", "deman", "demand", "promis", "promise"}) {
+            boolean whole = word.length() > 5 && !word.equals("promis") || word.equals("outer");
+            bad(1, whole ? 400 : 400 - word.length(), "stage a 1 1" + times(389 - word.length(), " ") + word);
+        }
         String many = times(100, "z 7;");
         is("a hundred LINES", 0, Checks.tell(new PromisedStock(), many));
         is("the last of them", 8, Checks.of(times(99, "z 7;") + "z 8;").count(2));

@@ -27,6 +27,9 @@ public final class PlanEdgesTest {
         heldAndPrice();
         greatestPrice();
         bestOfLikeOnes();
+        bestOfLikeSuppliers();
+        bestOfTheLeastPrice();
+        bestOfTwelveParts();
         noBest();
         withoutStages();
         timesAtFirst();
@@ -64,6 +67,14 @@ public final class PlanEdgesTest {
         PromisedStock x = Checks.of(ROW);
         for (int s = 1; s < 12; s++) {
             x.supply(s - 1, s);
+        }
+        return x;
+    }
+
+    private static PromisedStock turnedRow() {
+        PromisedStock x = Checks.of(ROW);
+        for (int s = 11; s > 0; s--) {
+            x.supply(s, s - 1);
         }
         return x;
     }
@@ -328,6 +339,10 @@ public final class PlanEdgesTest {
         is("base", 9 * 2 + 15, x.planned(1, 4));
         is("price", 3 * 20 + 999 * 15, x.plan(0));
         is("both hold something", 3, x.plan(2));
+        PromisedStock one = Checks.of("stage a 1 1 demand 0 1;stage b 1 1 demand 0 2;stage c 0 1 demand 0 1;z 100;");
+        is("held", 1, one.planned(0, 3));
+        is("held", 2, one.planned(1, 3));
+        is("one is something, too", 3, one.plan(2));
         x.promise(0, 4);
         is("net 0 holds nothing", 2, x.plan(2));
         is("net 0", 0, x.planned(0, 3));
@@ -396,6 +411,98 @@ public final class PlanEdgesTest {
         is("price", 0, x.take(2));
         is("the first supplier", first, x.planned(1, 0));
         is("the second supplier", second, x.planned(2, 0));
+    }
+
+    // One STAGE, supplied by three; those of lesser numbers than "first" stand by themselves.
+    private static PromisedStock threeSuppliers(int first, int customer) {
+        StringBuilder text = new StringBuilder();
+        for (int s = 0; s < first + 4; s++) {
+            text.append("stage ").append((char) ('a' + s)).append(s < first ? " 0 9;" : s == customer ? " 5 0;" : " 6 0;");
+        }
+        for (int s = first; s < first + 4; s++) {
+            if (s != customer) {
+                text.append("from ").append((char) ('a' + s)).append(' ').append((char) ('a' + customer)).append(';');
+            }
+        }
+        return Checks.of(text.toString());
+    }
+
+    private static void bestOfLikeSuppliers() {
+        CHECKS.part("of like ones that of the least TIME of STAGE 0, then of 1, ..: of three suppliers one must be late");
+        for (int first : new int[] {0, 1, 3, 4, 5, 8}) {
+            for (int customer = first; customer < first + 4; customer++) {
+                for (int pinned = first - 1; pinned < first + 4; pinned++) {
+                    if (pinned != customer) {
+                        likeSuppliers(first, customer, pinned);
+                    }
+                }
+            }
+        }
+    }
+
+    // The customer needs a WAIT of 6 at least; a PIN of 2 keeps one of them from it; all cost nothing.
+    private static void likeSuppliers(int first, int customer, int pinned) {
+        PromisedStock x = threeSuppliers(first, customer);
+        if (pinned >= first) {
+            x.pin(pinned, 2);
+        }
+        is("price", 0, x.take(2));
+        for (int s = 0; s < first + 4; s++) {
+            is("time of " + s + ", none late", s >= first && s == pinned ? 2 : 0, x.planned(s, 0));
+        }
+        x.pin(customer, 11);
+        int late = first + 3;
+        while (late == customer || late == pinned) {
+            late--;
+        }
+        is("price", 0, x.take(2));
+        for (int s = 0; s < first + 4; s++) {
+            int due = s == customer ? 11 : s == late ? 6 : s >= first && s == pinned ? 2 : 0;
+            is("time of " + s + " from " + first + ", customer " + customer + ", pinned " + pinned, due, x.planned(s, 0));
+        }
+    }
+
+    private static void bestOfTheLeastPrice() {
+        CHECKS.part("BEST: of all PLANS that HOLD the one of the least PRICE");
+        for (int others = 0; others < 11; others++) {
+            StringBuilder text = new StringBuilder("stage shop 2 1 demand 0 100 promise 0;z 100;");
+            for (int s = 0; s < others; s++) {
+                text.append("stage ").append((char) ('a' + s)).append(" 9 9;");
+            }
+            PromisedStock x = Checks.of(text + "stage mill 7 100;from mill shop;");
+            is("all is held by the shop", 30, x.take(2));
+            is("the mill is late", 7, x.planned(others + 1, 0));
+            x.change(0, 1, 999);
+            is("the shop holds as little as it can", 999 * 15 + 100 * root(100, 100, 7), x.take(2));
+            is("the mill is early", 0, x.planned(others + 1, 0));
+        }
+        PromisedStock late = Checks.of("stage c 0 0;stage a 3 0;stage b 9 0;from a c;from b c;");
+        late.pin(1, 3);
+        late.pin(2, 9);
+        is("each as late as can be", 0, late.take(2));
+        is("the customer needn't be", 0, late.planned(0, 0));
+        is("its WAIT", 9, late.planned(0, 1));
+        is("with the customer", 0, late.pinned(0, 9));
+        is("a day later", NONE, late.pinned(0, 10));
+    }
+
+    private static void bestOfTwelveParts() {
+        CHECKS.part("PRICE of BEST, in a NETWORK of twelve parts");
+        PromisedStock x = Checks.of(ROW);
+        x.change(0, 6, 100);
+        int due = 0;
+        for (int s = 0; s < 12; s++) {
+            x.change(s, 4, 100);
+            x.change(s, 2, s < 10 ? s : 9);
+            x.change(s, 1, 1 << s % 9);
+            x.change(s, 5, s);
+            due += (1 << s % 9) * root(100, 100, (s < 10 ? s : 9) + 9 - s);
+        }
+        is("least", due, x.least());
+        is("take", due, x.take(2));
+        for (int s = 0; s < 12; s++) {
+            is("time " + s, s, x.planned(s, 0));
+        }
     }
 
     private static void noBest() {
@@ -506,10 +613,10 @@ public final class PlanEdgesTest {
             is("the next one", Math.max(9, d[2]) + 9, x.planned(1, 0));
             is("the last one", Math.max(9, d[2]) + 99, x.planned(11, 0));
         }
-        PromisedStock turned = Checks.of("stage d 1 1;stage c 1 1;stage b 1 1;stage a 1 1;from a b;from b c;from c d;");
+        PromisedStock turned = turnedRow();
         turned.take(1);
-        for (int s = 0; s < 4; s++) {
-            is("suppliers ahead of whom they supply", 4 - s, turned.planned(s, 0));
+        for (int s = 0; s < 12; s++) {
+            is("suppliers ahead of whom they supply", 9 * (13 - s), turned.planned(s, 0));
         }
     }
 
@@ -562,6 +669,7 @@ public final class PlanEdgesTest {
         PromisedStock x = joinedRow();
         for (int s = 0; s < 12; s++) {
             is("longest " + s, 9 * (s + 2), x.stage(s, 9));
+            is("longest " + s + ", turned", 9 * (13 - s), turnedRow().stage(s, 9));
         }
         PromisedStock y = Checks.of("stage a 0 1;stage b 3 1;stage c 2 1 outer 3;from a c;from b c;");
         is("nothing", 0, y.stage(0, 9));

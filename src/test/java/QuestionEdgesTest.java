@@ -485,6 +485,10 @@ public final class QuestionEdgesTest {
         is("no bytes of none", NO_ANSWER - 1, x.ask(0));
         CHECKS.illegal("1 of none", () -> x.ask(1));
         is("what comes next is at the front", 9, Checks.ask(x, "most 9"));
+        is("many", 0, Checks.ask(x, "many not 1=1"));
+        is("nothing of the QUESTION ahead stays", 3, Checks.ask(x, "many 1=1"));
+        is("total", 12, Checks.ask(x, "total 1+1+1+1"));
+        is("nothing of the QUESTION ahead stays", 6, Checks.ask(x, "total 2"));
     }
 
     private static void nothingElseChanges() {
