@@ -65,27 +65,42 @@ public final class BestTest {
         for (int s = 0; s < stages; s++) {
             number.add(s);
         }
-        PromisedStock x = made(number);
-        int least = x.least();
+        PromisedStock first = made(number);
+        int least = first.least();
         for (int i = 0; i < 4; i++) {
-            Collections.shuffle(number, random);
-            CHECKS.is("least, numbered " + number, least, made(number).least());
+            List<Integer> other = new ArrayList<>(number);
+            Collections.shuffle(other, random);
+            CHECKS.is("least, numbered " + other, least, made(other).least());
         }
-        CHECKS.is("take", least, x.take(2));
+        CHECKS.is("take", least, first.take(2));
         if (least == PromisedStock.NONE) {
             return;
         }
+        int[] times = new int[stages];
         for (int s = 0; s < stages; s++) {
-            int time = x.planned(s, 0);
-            for (int t = 0; t < 118 && told.get(s)[6] == PromisedStock.NONE; t++) {
-                int price = x.pinned(s, t);
-                boolean due = t == time ? price == least : price == PromisedStock.NONE || price >= least;
-                boolean less = t < time && price == least;
-                CHECKS.is("stage " + s + " pinned at " + t + ": " + price + ", least " + least, true, due && !less);
-            }
-            // From here on only PLANS of the same lesser STAGES are looked at.
-            x.pin(s, time);
+            times[s] = first.planned(s, 0);
         }
-        CHECKS.is("all pinned", least, x.least());
+        for (int s = 0; s < stages; s++) {
+            // Another object for each STAGE: one object is asked no more than 512 times.
+            PromisedStock x = made(number);
+            // Only PLANS of the same lesser STAGES are looked at.
+            for (int lesser = 0; lesser < s; lesser++) {
+                x.pin(lesser, times[lesser]);
+            }
+            pinnedElsewhere(x, s, times[s], least);
+        }
+        for (int s = 0; s < stages; s++) {
+            first.pin(s, times[s]);
+        }
+        CHECKS.is("all pinned", least, first.least());
+    }
+
+    private void pinnedElsewhere(PromisedStock x, int s, int time, int least) {
+        for (int t = 0; t < 118 && told.get(s)[6] == PromisedStock.NONE; t++) {
+            int price = x.pinned(s, t);
+            boolean due = t == time ? price == least : price == PromisedStock.NONE || price >= least;
+            boolean less = t < time && price == least;
+            CHECKS.is("stage " + s + " pinned at " + t + ": " + price + ", least " + least, true, due && !less);
+        }
     }
 }

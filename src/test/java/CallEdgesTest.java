@@ -856,6 +856,7 @@ public final class CallEdgesTest {
         is("a NETWORK without STAGES is kept, too", true, empty.back());
         is("stages", 0, empty.count(0));
         is("z", 165, empty.count(2));
+        is("no STAGE", NONE, empty.add(0, true, 1, 1));
         new Twins(CHECKS, y -> {
             Recipes.rich(y);
             y.image();
@@ -888,6 +889,18 @@ public final class CallEdgesTest {
             Recipes.rich(y);
             y.back();
         }).leavesAll("back again", true, y -> y.back());
+        CHECKS.part("31: All is as it was kept, whatever came between, again and again");
+        PromisedStock again = new PromisedStock();
+        Recipes.rich(again);
+        again.back();
+        String was = Twins.seen(again, false);
+        for (int round = 0; round < 3; round++) {
+            changeAll(again);
+            is("changed", false, was.equals(Twins.seen(again, false)));
+            is("back", true, again.back());
+            is("as it was kept", was, Twins.seen(again, false));
+            is("undo", NONE, again.undo());
+        }
         CHECKS.part("31: All is as it was kept: a STAGE of a greater number finds nothing");
         PromisedStock y = Checks.of("stage a 1 1;");
         y.image();
@@ -904,6 +917,24 @@ public final class CallEdgesTest {
             is("its time", 0, y.planned(s, 0));
             is("its demand", 0, y.day(s, 3, 0));
         }
+    }
+
+    private static void changeAll(PromisedStock x) {
+        for (int s = 0; s < 2; s++) {
+            for (int what = 0; what < 6; what++) {
+                x.change(s, what, 7 + s);
+            }
+            x.pin(s, 70 + s);
+            x.promise(s, 80 + s);
+            x.demand(s, 0, 90 + s);
+            x.demand(s, 3, 90 + s);
+            x.drawn(s, 17);
+        }
+        x.change(0, 6, 99);
+        x.add(1, true, 5, 55);
+        x.add(0, false, 6, 66);
+        x.promise(2, 5);
+        x.demand(3, 7, 5);
     }
 
     private static void backWithoutImage() {

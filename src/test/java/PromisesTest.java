@@ -38,6 +38,7 @@ public final class PromisesTest {
         drawn();
         day();
         days();
+        askValues();
         ask();
         askFaults();
         chain();
@@ -861,17 +862,22 @@ public final class PromisesTest {
         is("the tape is empty", 0, x.count(6));
     }
 
-    private static void ask() {
-        CHECKS.part("27 ask");
+    private static PromisedStock four() {
         PromisedStock x = Checks.of("stage a 2 9 outer 1 demand 1 10;stage b 3 8 outer 4 promise 7;"
             + "stage c 1 7 demand 20 300;stage d 5 6 outer 9 demand 40 5000;from a c;from b c;from c d;");
         x.pin(2, 5);
         x.promise(0, 2);
         x.promise(1, 9);
         x.promise(3, 1);
+        return x;
+    }
+
+    private static void askValues() {
+        CHECKS.part("27 ask, values");
         String[] values = {"number", "days", "cost", "outer", "mean", "spread", "promise", "pin", "flow", "width",
             "longest", "suppliers", "customers", "time", "wait", "net", "held", "base", "price"};
         for (int s = 0; s < 4; s++) {
+            PromisedStock x = four();
             for (int v = 0; v < values.length; v++) {
                 int due = v == 0 ? s : v < 8 ? x.stage(s, v - 1) : v < 11 ? x.stage(s, v - 1)
                     : v < 13 ? Integer.bitCount(x.stage(s, v - 1)) : x.planned(s, v - 13);
@@ -879,6 +885,11 @@ public final class PromisesTest {
                 asked(x, s, "first number = " + s + " and " + values[v] + " + 5 = " + (due + 5));
             }
         }
+    }
+
+    private static void ask() {
+        CHECKS.part("27 ask");
+        PromisedStock x = four();
         asked(x, 6, "total number");
         asked(x, 5, "most days");
         asked(x, 1, "least days");
@@ -924,7 +935,7 @@ public final class PromisesTest {
         asked(none, 0, "total 5");
         asked(none, 0, "most 5");
         asked(none, 0, "least 5");
-        askTape(x);
+        askTape(four());
     }
 
     private static void askTape(PromisedStock x) {
