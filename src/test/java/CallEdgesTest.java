@@ -894,9 +894,9 @@ public final class CallEdgesTest {
         Recipes.rich(again);
         again.back();
         String was = Twins.seen(again, false);
-        for (int round = 0; round < 3; round++) {
+        for (int round = 0; round < 2; round++) {
             changeAll(again);
-            is("changed", false, was.equals(Twins.seen(again, false)));
+            is("changed", 4, again.count(0));
             is("back", true, again.back());
             is("as it was kept", was, Twins.seen(again, false));
             is("undo", NONE, again.undo());
