@@ -653,7 +653,7 @@ public final class PromisedStock {
             int size = 0;
             for (int round = 0; round < count && size < count; round++) {
                 for (int s = 0; s < count; s++) {
-                    if (!has(sorted, s) && (suppliers[s] & ~sorted) == 0) {
+                    if (size < STAGES && !has(sorted, s) && (suppliers[s] & ~sorted) == 0) {
                         order[size] = s;
                         size++;
                         sorted |= 1 << s;
@@ -669,7 +669,8 @@ public final class PromisedStock {
                     ahead = Math.max(ahead, longest[s]);
                 }
             }
-            longest[stage] = ahead + told(stage, DAYS);
+            // Rows go by TIMES up to LONGEST: with the most DAYS and OUTER of all it is 117.
+            longest[stage] = Math.min(ahead + told(stage, DAYS), TIMES - 1);
         }
 
         private void settleFlow(int stage) {
@@ -1517,7 +1518,7 @@ public final class PromisedStock {
                 int stage = walk[at];
                 int found = (net.suppliers[stage] | net.customers[stage]) & ~seen;
                 for (int s = 0; s < net.count; s++) {
-                    if (Net.has(found, s)) {
+                    if (size < STAGES && Net.has(found, s)) {
                         walk[size] = s;
                         inward[s] = stage;
                         size++;
@@ -1614,7 +1615,7 @@ public final class PromisedStock {
             long[] lows = justThen.low;
             long leastHigh = Row.NEVER;
             long leastLow = 0;
-            for (int w = Math.max(0, -more); w <= latest; w++) {
+            for (int w = Math.max(0, -more); w <= latest && w + more < TIMES; w++) {
                 long now = highs[w] + prices[w + more];
                 if (now < leastHigh || now == leastHigh && lows[w] < leastLow) {
                     leastHigh = now;
@@ -1652,8 +1653,9 @@ public final class PromisedStock {
             long[] lows = own.low;
             long leastHigh = Row.NEVER;
             long leastLow = 0;
-            for (int t = 0; t <= together; t++) {
-                long now = highs[t] + prices[together - t];
+            int last = Math.min(together, TIMES - 1);
+            for (int t = 0; t <= last; t++) {
+                long now = highs[t] + prices[last - t];
                 if (now < leastHigh || now == leastHigh && lows[t] < leastLow) {
                     leastHigh = now;
                     leastLow = lows[t];

@@ -257,7 +257,7 @@ public final class AgainstSlowModelTest {
             case 31: if (upTo(4) == 0) call("back"); return;
             case 32: if (upTo(4) == 0) call("feed", 0, 1, 2, 3, random.nextInt()); return;
             case 33: if (upTo(4) == 0) call("take", upTo(3) == 0 ? near(4, 9) : 0); return;
-            default: if (slow.net().canTryAll()) byBest(how - 34);
+            default: byBest(how - 34);
         }
     }
 

@@ -4,8 +4,9 @@ import java.util.List;
 import java.util.Random;
 
 /**
- * BEST of NETWORKS that are too great for trying all PLANS: its PRICE must not hang on how STAGES are numbered, PINS
- * at its own TIMES must leave it as it is, and no lesser TIME may do as well.
+ * BEST of NETWORKS that are too great for trying all PLANS: all that is told of it must be what SlowModel tells, its
+ * PRICE must not hang on how STAGES are numbered, PINS at its own TIMES must leave it as it is, and no lesser TIME may
+ * do as well.
  */
 public final class BestTest {
     private static final Checks CHECKS = new Checks();
@@ -38,6 +39,7 @@ public final class BestTest {
         for (int seed = 0; seed < 400; seed++) {
             CHECKS.part("network of seed " + seed);
             new BestTest(seed).check();
+            new BestTest(seed).againstSlowModel();
         }
         CHECKS.end();
     }
@@ -60,11 +62,48 @@ public final class BestTest {
         return x;
     }
 
-    private void check() {
+    private SlowModel slow() {
+        SlowModel slow = new SlowModel();
+        for (int s = 0; s < stages; s++) {
+            SlowModel.Stage stage = new SlowModel.Stage();
+            stage.told = told.get(s).clone();
+            slow.net().stages.add(stage);
+        }
+        slow.net().supplies.addAll(supplies);
+        return slow;
+    }
+
+    private List<Integer> rising() {
         List<Integer> number = new ArrayList<>();
         for (int s = 0; s < stages; s++) {
             number.add(s);
         }
+        return number;
+    }
+
+    private void againstSlowModel() {
+        PromisedStock x = made(rising());
+        SlowModel slow = slow();
+        CHECKS.is("least", slow.least(), x.least());
+        CHECKS.is("take", slow.take(2), x.take(2));
+        for (int s = 0; s < stages; s++) {
+            CHECKS.is("time " + s, slow.planned(s, 0), x.planned(s, 0));
+        }
+        for (int i = 0; i < 3; i++) {
+            int s = random.nextInt(stages);
+            int p = random.nextInt(21);
+            int time = random.nextInt(40);
+            CHECKS.is("worth of a day " + s, slow.worth(s, 0), x.worth(s, 0));
+            CHECKS.is("worth of a promise " + s, slow.worth(s, 1), x.worth(s, 1));
+            CHECKS.is("worth of a pin " + s, slow.worth(s, 2), x.worth(s, 2));
+            CHECKS.is("pinned " + s + " " + time, slow.pinned(s, time), x.pinned(s, time));
+            CHECKS.is("even " + p, slow.even(p), x.even(p));
+        }
+        CHECKS.is("frontier", slow.frontier(PromisedStock.NONE), x.frontier(PromisedStock.NONE));
+    }
+
+    private void check() {
+        List<Integer> number = rising();
         PromisedStock first = made(number);
         int least = first.least();
         for (int i = 0; i < 4; i++) {

@@ -211,17 +211,24 @@ final class SlowModel {
             return plans <= 60000;
         }
 
-        // The times of BEST, or null.
-        int[] best() {
-            Trial trial = new Trial(this);
-            trial.go(0, 0);
-            return trial.found;
+        /** BEST; null: there is none. Where all PLANS can be tried, both ways to find it must tell the same. */
+        PartsBest.Part best() {
+            PartsBest.Part found = PartsBest.of(this);
+            if (canTryAll()) {
+                Trial trial = new Trial(this);
+                trial.go(0, 0);
+                boolean same = found == null ? trial.found == null
+                    : found.price == trial.price && Arrays.equals(found.time, trial.found);
+                if (!same) {
+                    throw new IllegalStateException("all PLANS tried tell another BEST");
+                }
+            }
+            return found;
         }
 
         int bestPrice() {
-            Trial trial = new Trial(this);
-            trial.go(0, 0);
-            return trial.found == null ? NONE : trial.price;
+            PartsBest.Part found = best();
+            return found == null ? NONE : found.price;
         }
     }
 
@@ -450,7 +457,7 @@ final class SlowModel {
         if (rule < 0 || rule > 3) {
             return NONE;
         }
-        int[] best = rule == 2 ? net.best() : null;
+        PartsBest.Part best = rule == 2 ? net.best() : null;
         if (rule == 2 && best == null) {
             return NONE;
         }
@@ -459,7 +466,7 @@ final class SlowModel {
             if (rule == 0) {
                 st.time = 0;
             } else if (rule == 2) {
-                st.time = best[s];
+                st.time = best.time[s];
             } else {
                 int t = net.waits(s) + st.told[0];
                 t = st.told[5] == NONE ? t : Math.min(t, st.told[5]);
